@@ -126,7 +126,7 @@ public final class PromiseTests {
         due(4, "setCode(0, 16)", x.setCode(0, 16), BAD_VALUE);
         due(4, "setCode(0, 1)", x.setCode(0, 1), BAD_STATE);
         due(4, "undo()", x.undo(), 0);
-        due(4, "setCode(2, 15) of 8 rings again", x.setCode(2, 15), 2);
+        due(4, "setCode(2, 15) of the 8 rings again", x.setCode(2, 15), 2);
         due(4, "setCode(2, 15), its own", x.setCode(2, 15), 15);
         due(4, "undo() of what changed nothing", x.undo(), 1);
         due(4, "picked(15)", x.picked(15), 4);
@@ -135,6 +135,11 @@ public final class PromiseTests {
         due(4, "through(7, 2)", x.through(7, 2), 1);
         due(4, "setCode(0, 2), free by now", x.setCode(0, 2), 0);
         due(4, "cost(1)", x.cost(1), 5);
+        due(4, "setCode(1, 0), free by now", x.setCode(1, 0), 1);
+        due(4, "picked(0)", x.picked(0), 2);
+        due(4, "setCode(3, 0), the code of another", x.setCode(3, 0), BAD_STATE);
+        due(4, "setCode(2, 3), the code of the ring 3", x.setCode(2, 3), BAD_STATE);
+        due(4, "setCode(3, 2), the code of the ring 0", x.setCode(3, 2), BAD_STATE);
         CoreRope y = rope(2, 1, 1);
         y.spoil(1, 0);
         y.setCode(0, 3);
@@ -257,6 +262,7 @@ public final class PromiseTests {
         CoreRope x = rope(4, 3, 1);
         due(12, "picked(-1)", x.picked(-1), BAD_VALUE);
         due(12, "picked(16)", x.picked(16), BAD_VALUE);
+        due(12, "picked(0)", x.picked(0), 1);
         due(12, "picked(3)", x.picked(3), 8);
         due(12, "picked(4)", x.picked(4), 0);
         // The wire 0 goes round ring 2: the code 3 does not keep it out any longer.
@@ -323,6 +329,9 @@ public final class PromiseTests {
         due(16, "wrong(1), patched", x.wrong(1), 0);
         due(16, "wrong(2), patched", x.wrong(2), 2);
         due(16, "wrong(3), patched", x.wrong(3), 2);
+        x.patch(0, 0);
+        due(16, "wrong(0), one patched rightly", x.wrong(0), 1);
+        due(16, "wrong(3), one patched rightly", x.wrong(3), 2);
         due(16, "wrong(-1)", x.wrong(-1), BAD_VALUE);
         due(16, "wrong(4)", x.wrong(4), BAD_VALUE);
         due(16, "wrong(HIGHEST)", x.wrong(HIGHEST), BAD_VALUE);
@@ -380,6 +389,17 @@ public final class PromiseTests {
         due(18, "explains(0), two rings picked", z.explains(0), 0);
         due(18, "explains(1), or the bit alone", z.explains(1), 16 * 8 + 1);
         due(18, "explains(2)", z.explains(2), NONE);
+        CoreRope w = rope(2, 2, 2);
+        w.weave(0, 3);
+        w.weave(1, 1);
+        w.spoil(0, 0);
+        // Both sets of ring 1 are read wrongly: no sense wire explains that.
+        due(18, "explains(0), two sets read wrongly", w.explains(0), 0);
+        due(18, "explains(1), two sets read wrongly", w.explains(1), NONE);
+        w.spoil(0, 0);
+        w.spoil(11, 0);
+        due(18, "explains(0), the second set's bit 0 at ring 0", w.explains(0), 16 * 11);
+        due(18, "explains(1), the second set's bit 0 at ring 0", w.explains(1), NONE);
     }
 
     private static void patching() {
@@ -453,6 +473,61 @@ public final class PromiseTests {
         parity.spoil(9, 0);
         due(21, "patchAll() with a wrong parity alone", parity.patchAll(), 0);
         due(21, "count(7)", parity.count(7), 0);
+    }
+
+    /** Does one recorded call, if it is possible in the rope that recording() makes. */
+    private static void recorded(CoreRope x, int promise) {
+        switch (promise) {
+            case 2: x.begin(2, 1, 1); break;
+            case 4: x.setCode(0, 9); break;
+            case 6: x.weave(0, 9); break;
+            case 8: x.cross(8); break;
+            case 11: x.economize(); break;
+            case 17: x.spoil(0, 0); break;
+            case 19: x.patch(0, 9); break;
+            case 20: x.unpatch(5); break;
+            case 21: x.patchAll(); break;
+            default: x.load(); break;
+        }
+    }
+
+    private static void recording() {
+        int[] promises = {2, 4, 6, 8, 11, 17, 19, 20, 21, 27};
+        for (int promise : promises) {
+            CoreRope x = new CoreRope();
+            x.patch(5, 1);
+            put(x, "1,2,3");
+            long before = x.digest();
+            recorded(x, promise);
+            due(promise, "whether the call changes something", x.digest() == before ? 0 : 1, 1);
+            due(promise, "undo() of the call", x.undo(), 1);
+            due(promise, "digest() with the call undone", x.digest(), before);
+            due(promise, "undo() of the call before", x.undo(), 0);
+            due(promise, "patchOf(5)", x.patchOf(5), NONE);
+        }
+    }
+
+    /** What only tells must leave the history and the state alone. */
+    private static void onlyTelling() {
+        CoreRope x = new CoreRope();
+        long before = x.digest();
+        x.count(8);
+        x.code(0);
+        x.word(0);
+        x.through(8, 0);
+        x.cost(8);
+        x.picked(3);
+        x.read(0);
+        x.readRaw(0);
+        x.parity(0);
+        x.wrong(0);
+        x.explains(0);
+        x.patchOf(0);
+        x.type('1');
+        x.textFault();
+        x.clearText();
+        due(23, "undo() after calls that only tell", x.undo(), BAD_STATE);
+        due(23, "digest() after calls that only tell", x.digest(), before);
     }
 
     private static void undoing() {
@@ -643,6 +718,8 @@ public final class PromiseTests {
         explaining();
         patching();
         patchingAll();
+        recording();
+        onlyTelling();
         undoing();
         typing();
         faults();
