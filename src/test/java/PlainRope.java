@@ -1,5 +1,6 @@
 import java.util.ArrayDeque;
 import java.util.ArrayList;
+import java.util.Arrays;
 import java.util.Deque;
 import java.util.List;
 
@@ -186,19 +187,25 @@ final class PlainRope {
         return sum;
     }
 
-    private int raw(boolean[][] wrong, int address, int b) {
-        int wire = 8 + address % now.sets * (now.bits + 1) + b;
-        boolean one = false;
-        for (int r = 0; r < now.rings; r++) {
-            if (picks(wrong, now.codes[address / now.sets], r) && goes(wrong, wire, r)) one = true;
+    /** All B + 1 raw bits of an address, that of the parity last. */
+    private boolean[] raw(boolean[][] wrong, int address) {
+        boolean[] picked = new boolean[now.rings];
+        for (int r = 0; r < now.rings; r++) picked[r] = picks(wrong, now.codes[address / now.sets], r);
+        boolean[] bits = new boolean[now.bits + 1];
+        for (int b = 0; b <= now.bits; b++) {
+            int wire = 8 + address % now.sets * (now.bits + 1) + b;
+            boolean one = false;
+            for (int r = 0; r < now.rings; r++) if (picked[r] && goes(wrong, wire, r)) one = true;
+            bits[b] = one != now.crossed[wire];
         }
-        return one != now.crossed[wire] ? 1 : 0;
+        return bits;
     }
 
     int readRaw(int address) {
         if (noAddress(address)) return BAD_INDEX;
+        boolean[] bits = raw(now.wrong, address);
         int word = 0;
-        for (int b = 0; b < now.bits; b++) word += raw(now.wrong, address, b) << b;
+        for (int b = 0; b < now.bits; b++) if (bits[b]) word += 1 << b;
         return word;
     }
 
@@ -211,7 +218,7 @@ final class PlainRope {
         if (noAddress(address)) return BAD_INDEX;
         if (now.patches[address] != null) return 1;
         int ones = 0;
-        for (int b = 0; b <= now.bits; b++) ones += raw(now.wrong, address, b);
+        for (boolean bit : raw(now.wrong, address)) if (bit) ones++;
         return ones % 2;
     }
 
@@ -235,21 +242,24 @@ final class PlainRope {
         return now.wrong[wire][ring] ? 1 : 0;
     }
 
-    private boolean sameRawBits(boolean[][] one, boolean[][] other) {
+    private boolean allRawBitsAre(boolean[][] due, boolean[][] wrong) {
         for (int a = 0; a < now.words.length; a++) {
-            for (int b = 0; b <= now.bits; b++) if (raw(one, a, b) != raw(other, a, b)) return false;
+            if (!Arrays.equals(raw(wrong, a), due[a])) return false;
         }
         return true;
     }
 
     int explains(int rank) {
         if (rank < 0) return BAD_VALUE;
+        boolean[][] due = new boolean[now.words.length][];
+        for (int a = 0; a < now.words.length; a++) due[a] = raw(now.wrong, a);
         List<Integer> all = new ArrayList<>();
+        boolean[][] alone = new boolean[now.wrong.length][now.rings];
         for (int w = 0; w < now.wrong.length; w++) {
             for (int r = 0; r < now.rings; r++) {
-                boolean[][] alone = new boolean[now.wrong.length][now.rings];
                 alone[w][r] = true;
-                if (sameRawBits(alone, now.wrong)) all.add(16 * w + r);
+                if (allRawBitsAre(due, alone)) all.add(16 * w + r);
+                alone[w][r] = false;
             }
         }
         return rank < all.size() ? all.get(rank) : NONE;
